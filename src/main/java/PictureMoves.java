@@ -79,8 +79,7 @@ public final class PictureMoves {
             return refusedBad();
         }
         if (scene.openingCount >= MOST_OPENINGS) {
-            fulls++;
-            return FULL;
+            return refusedFull();
         }
         past.keeps(scene);
         painter.performs(order);
@@ -232,8 +231,7 @@ public final class PictureMoves {
             return refusedBad();
         }
         if (text.length >= MOST_BYTES) {
-            fulls++;
-            return FULL;
+            return refusedFull();
         }
         text.takes(c);
         return text.length;
@@ -253,7 +251,7 @@ public final class PictureMoves {
         past.keeps(scene);
         text.restarts();
         int otherwise = 0;
-        for (int done = 0; done < MOST_BYTES && !text.isRead(); done++) {
+        for (int done = 0; done < MOST_BYTES && !text.isAtEnd(); done++) {
             text.reads(order);
             otherwise += painter.performs(order);
         }
@@ -290,6 +288,11 @@ public final class PictureMoves {
     private int refusedNo() {
         noes++;
         return NO;
+    }
+
+    private int refusedFull() {
+        fulls++;
+        return FULL;
     }
 
     private int tally(int what) {
@@ -632,7 +635,8 @@ public final class PictureMoves {
             place = 0;
         }
 
-        boolean isRead() {
+        /** Blanks may stand anywhere, so those ahead of the end, or of the next ORDER, are passed over. */
+        boolean isAtEnd() {
             skipsBlanks();
             return place >= length;
         }
@@ -640,14 +644,13 @@ public final class PictureMoves {
         /** The FAULT of the whole TEXT, or NONE; it is sought ahead of all doing, as by one nothing is done. */
         int faultIn(Order order, int openingsNow) {
             restarts();
-            if (isRead()) {
+            if (isAtEnd()) {
                 return length;
             }
             int openings = openingsNow;
-            for (int k = 0; k < MOST_BYTES && !isRead(); k++) {
-                int first = place;
+            for (int k = 0; k < MOST_BYTES && !isAtEnd(); k++) {
                 if (byteHere() == Order.OPENING && openings >= MOST_OPENINGS) {
-                    return first;
+                    return place;
                 }
                 int fault = reads(order);
                 if (fault != NONE) {
@@ -784,7 +787,8 @@ public final class PictureMoves {
             int otherwise = 0;
             for (int i = 0; i <= n && i <= MOST_PLACE - LEAST_PLACE; i++) {
                 int mask = spanMask(between(x0, x1, i, n), 1);
-                otherwise += scene.joinsRow(order.numberAt(0), between(y0, y1, i, n), mask, ALL_ONES, order.numberAt(5));
+                int y = between(y0, y1, i, n);
+                otherwise += scene.joinsRow(order.numberAt(0), y, mask, ALL_ONES, order.numberAt(5));
             }
             return otherwise;
         }

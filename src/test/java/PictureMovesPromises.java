@@ -196,6 +196,14 @@ public final class PictureMovesPromises {
         due("it is there", x.at(2, 0, 0), 1);
         due("the last one", x.move(0, 0, 0, 64, 64, 2, 31, 23, 255), 1);
         due("it is there", x.at(2, 31, 23), 1);
+        x = new PictureMoves();
+        x.rectangle(0, 0, 0, 32, 24, 255);
+        due("a row from below the source", x.move(0, 0, 24, 32, 1, 0, 0, 5, SOURCE), 32);
+        due("a row from above the source", x.move(0, 0, -1, 32, 1, 0, 0, 6, SOURCE), 32);
+        due("its last row stays", x.move(0, 0, 23, 32, 1, 0, 0, 7, SOURCE), 0);
+        due("a column from the right of it", x.move(0, 32, 0, 1, 5, 0, 3, 0, SOURCE), 5);
+        due("a column from the left of it", x.move(0, -1, 0, 1, 5, 0, 4, 0, SOURCE), 5);
+        due("its first column stays", x.move(0, 0, 0, 1, 5, 0, 5, 0, SOURCE), 0);
         byEachJoin();
         withinOpenings();
         wrongMoves();
@@ -282,6 +290,15 @@ public final class PictureMovesPromises {
         due("aslant", x.line(0, 0, 3, 3, 0, 255), 4);
         looks("aslant", x, 0, "...#", "..#.", ".#..", "#...");
         x = new PictureMoves();
+        due("two DOTS", x.line(0, 1, 0, 1, 1, 255), 2);
+        due("two DOTS aslant", x.line(0, 4, 1, 3, 0, 255), 2);
+        looks("two DOTS each", x, 0, ".#.#.", ".#..#");
+        due("a level one, far down", x.line(0, 20, 20, 22, 20, 255), 3);
+        due("an upright one, far right", x.line(0, 30, 20, 30, 22, 255), 3);
+        due("row(0, 20)", x.row(0, 20), 0x00000E02);
+        x = new PictureMoves();
+        due("far beyond", x.line(0, -64, 0, 63, -1, 255), lineDots(-64, 0, 63, -1));
+        x = new PictureMoves();
         x.opening(2, 0, 2, 24);
         due("only OPEN ones", x.line(0, -64, 0, 63, 0, 255), 2);
         due("by turning", x.line(0, 0, 0, 31, 0, TURNED), 2);
@@ -300,6 +317,17 @@ public final class PictureMovesPromises {
             refused("line wrong " + k, x, x.line(a[0], a[1], a[2], a[3], a[4], a[5]), BAD, k);
         }
         due("told(5)", x.told(5), 6);
+    }
+
+    /** How many DOTS of a LINE that goes by x lie within the picture. */
+    private static int lineDots(int x0, int y0, int x1, int y1) {
+        int n = x1 - x0;
+        int within = 0;
+        for (int i = 0; i <= n; i++) {
+            int y = y0 + Math.floorDiv((y1 - y0) * 2 * i + n, 2 * n);
+            within += x0 + i >= 0 && x0 + i < 32 && y >= 0 && y < 24 ? 1 : 0;
+        }
+        return within;
     }
 
     private static void promise9() {
@@ -334,6 +362,17 @@ public final class PictureMovesPromises {
         refused("flood(0, 0, -65)", x, x.flood(0, 0, -65), BAD, 5);
         due("told(1)", x.told(1), 5);
         due("a long way", aWindingWay().flood(0, 0, 0), 32 * 12 + 11);
+        due("a long way up and down", aWayUpAndDown().flood(0, 0, 0), 24 * 16 + 15);
+        due("and from its end", aWayUpAndDown().flood(0, 30, 0), 24 * 16 + 15);
+    }
+
+    /** A way of 0s that goes up and down through the whole picture, with as many runs as there can be in one. */
+    private static PictureMoves aWayUpAndDown() {
+        PictureMoves x = new PictureMoves();
+        for (int k = 1; k < 32; k += 2) {
+            x.rectangle(0, k, k == 31 || k % 4 == 1 ? 0 : 1, 1, k == 31 ? 24 : 23, 255);
+        }
+        return x;
     }
 
     /** A way of 0s that goes to and fro through the whole picture. */
@@ -406,6 +445,10 @@ public final class PictureMovesPromises {
         PictureMoves x = shown(0, "##..");
         x.dot(1, 1, 0, 1);
         x.dot(1, 2, 0, 1);
+        due("0 at all", x.joins(0, 1, 0), 2);
+        due("1 at all", x.joins(0, 1, 255), 768);
+        x.back();
+        x.back();
         due("both", x.joins(0, 1, 0xA0), 1);
         looks("both", x, 1, ".#..");
         x.back();
@@ -437,6 +480,12 @@ public final class PictureMovesPromises {
         due("upside down", x.changes(0, 1), 6);
         due("row(0, 23)", x.row(0, 23), 0xB);
         due("row(0, 0)", x.row(0, 0), 0);
+        x = new PictureMoves();
+        x.dot(0, 31, 0, 1);
+        due("mirrored from the right edge", x.changes(0, 0), 2);
+        due("row(0, 0)", x.row(0, 0), LOW);
+        due("mirrored from the left edge", x.changes(0, 0), 2);
+        due("row(0, 0)", x.row(0, 0), 1);
         x = shown(1, "#...", "....", "....", "...#");
         x.opening(9, 9, 1, 1);
         due("grown", x.changes(1, 2), 6);
@@ -532,6 +581,12 @@ public final class PictureMovesPromises {
         for (int what = 0; what < last.length; what++) {
             due("of(2, " + what + ")", x.of(2, what), last[what]);
         }
+        x.dot(0, 0, 0, 1);
+        int[] first = {1, 1, 0, 0, 0, 0, 768};
+        for (int what = 0; what < first.length; what++) {
+            due("of(0, " + what + ")", x.of(0, what), first[what]);
+        }
+        x.dot(0, 0, 0, 0);
         x.opening(-1, -1, 3, 3);
         x.opening(1, 1, 2, 2);
         due("of(0, 6)", x.of(0, 6), 7);
@@ -540,6 +595,9 @@ public final class PictureMovesPromises {
         PictureMoves way = aWindingWay();
         way.joins(0, 0, TURNED);
         due("PARTS of a winding way", way.of(0, 1), 1);
+        way = aWayUpAndDown();
+        way.joins(0, 0, TURNED);
+        due("PARTS of a way up and down", way.of(0, 1), 1);
         due("told(0)", x.told(0), 0);
         refused("of(3, 0)", x, x.of(3, 0), BAD, 0);
         refused("of(-1, 0)", x, x.of(-1, 0), BAD, 1);
@@ -559,6 +617,8 @@ public final class PictureMovesPromises {
     private static void promise18() {
         PictureMoves x = shown(0, "##.#", "..##");
         due("count(0, 1, 0, 2, 2)", x.count(0, 1, 0, 2, 2), 2);
+        due("count(0, 1, 0, 2, 1)", x.count(0, 1, 0, 2, 1), 1);
+        due("count(0, 2, 1, 1, 1)", x.count(0, 2, 1, 1, 1), 1);
         due("count(0, -64, -64, 64, 64)", x.count(0, -64, -64, 64, 64), 0);
         due("count(0, -63, -63, 64, 64)", x.count(0, -63, -63, 64, 64), 1);
         due("count(0, -20, -20, 64, 64)", x.count(0, -20, -20, 64, 64), 5);

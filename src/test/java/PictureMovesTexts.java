@@ -97,6 +97,9 @@ public final class PictureMovesTexts {
         fault("r 0 2 x 3 3 255;", "      ^");
         fault("r 0,2 2 3 3 255;", "   ^");
         fault("r 0 2 +2 3 3 255;", "      ^");
+        fault("r 0 2 2 3 3 9:;", "             ^");
+        fault("r 0 2 2 3 3 :;", "            ^");
+        fault("r 0 2 2 3 3 /;", "            ^");
         fault("r 0 2 2 3 3 255;z", "                ^");
         fault("r 0 2 2 3 3 255;r 3 0 0 1 1 0;", "                  ^");
     }
@@ -158,6 +161,8 @@ public final class PictureMovesTexts {
         fault("o0 0 1 1;o0 0 1 1;o0 0 1 1;o0 0 1 1; o0 0 1 1;", "                                     ^");
         fault("o0 0 1 1;o0 0 1 1;o0 0 1 1;o0 0 1 1;o0 0 x", "                                    ^");
         does("o0 0 1 1;o0 0 1 1;o0 0 1 1;o0 0 1 1;k;o0 0 1 1", -10 - 46);
+        does("o0 0 1 1;k;o0 0 1 1;o0 0 1 1;o0 0 1 1;o0 0 1 1;", 0);
+        does("o0 0 1 1;k;o0 0 1 1;o0 0 1 1;o0 0 1 1;o0 0 1 1;o", -10 - 47);
         PictureMoves x = new PictureMoves();
         x.opening(0, 0, 1, 1);
         x.opening(2, 0, 1, 1);
@@ -229,6 +234,9 @@ public final class PictureMovesTexts {
         x.type(';');
         x.type(127);
         Due.due("does()", x.does(), -12);
+        x.clear();
+        x.type('k');
+        Due.due("does(): what was cleared is gone", x.does(), -11);
         Due.due("told(5): type and clear leave no STATE", x.told(5), 0);
     }
 
