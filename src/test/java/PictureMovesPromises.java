@@ -8,33 +8,7 @@ public final class PictureMovesPromises {
         Due.due(call, got, want);
     }
 
-    /** Draws a picture from rows of signs at x 0, y 0: # is 1. */
-    private static PictureMoves shown(int t, String... rows) {
-        PictureMoves x = new PictureMoves();
-        for (int y = 0; y < rows.length; y++) {
-            for (int k = 0; k < rows[y].length(); k++) {
-                if (rows[y].charAt(k) == '#') {
-                    x.dot(t, k, y, 1);
-                }
-            }
-        }
-        return x;
-    }
-
-    /** The left upper part of picture t must look like the rows, and nothing may be 1 elsewhere. */
-    private static void looks(String what, PictureMoves x, int t, String... rows) {
-        int ones = 0;
-        for (int y = 0; y < rows.length; y++) {
-            for (int k = 0; k < rows[y].length(); k++) {
-                int want = rows[y].charAt(k) == '#' ? 1 : 0;
-                ones += want;
-                due(what + ": at(" + t + ", " + k + ", " + y + ")", x.at(t, k, y), want);
-            }
-        }
-        due(what + ": DOTS of 1", x.of(t, 0), ones);
-    }
-
-    /** Every refused call answers as due, is counted once, and changes nothing else. */
+    /** A refused call answers as due and is counted once; what else it may leave is looked at in PictureMovesBounds. */
     private static void refused(String call, PictureMoves x, int got, int want, int badsBefore) {
         due(call, got, want);
         due("told(0) after " + call, x.told(0), badsBefore + 1);
@@ -175,17 +149,17 @@ public final class PictureMovesPromises {
     }
 
     private static void promise7() {
-        PictureMoves x = shown(0, "##.", "#.#");
+        PictureMoves x = Pictures.shown(0, "##.", "#.#");
         due("a block beside", x.move(0, 0, 0, 3, 2, 1, 2, 1, SOURCE), 4);
-        looks("a block beside", x, 1, ".....", "..##.", "..#.#");
+        Pictures.looks("a block beside", x, 1, ".....", "..##.", "..#.#");
         due("overlapping to the right and down", x.move(0, 0, 0, 3, 2, 0, 1, 1, SOURCE), 3);
-        looks("overlapping", x, 0, "##..", "###.", ".#.#");
+        Pictures.looks("overlapping", x, 0, "##..", "###.", ".#.#");
         x.back();
         due("overlapping to the left and up", x.move(0, 1, 1, 2, 1, 0, 0, 0, SOURCE), 1);
-        looks("overlapping", x, 0, ".#.", "#.#");
+        Pictures.looks("overlapping", x, 0, ".#.", "#.#");
         x.back();
         due("from beyond comes 0", x.move(0, -1, -1, 3, 2, 0, 0, 0, SOURCE), 4);
-        looks("from beyond", x, 0, "...", ".##");
+        Pictures.looks("from beyond", x, 0, "...", ".##");
         x.back();
         due("0 beyond, joined", x.move(0, -64, -64, 64, 64, 0, 0, 0, 15), 764);
         due("row(0, 0)", x.row(0, 0), -1);
@@ -238,7 +212,7 @@ public final class PictureMovesPromises {
         x.opening(1, 1, 2, 1);
         x.opening(2, 1, 2, 2);
         due("within OPENINGS", x.move(0, 0, 0, 9, 9, 1, 0, 0, 255), 5);
-        looks("within OPENINGS", x, 1, ".....", ".###.", "..##.", ".....");
+        Pictures.looks("within OPENINGS", x, 1, ".....", ".###.", "..##.", ".....");
         due("turned twice: each DOT once", x.move(1, 0, 0, 9, 9, 1, 0, 0, TURNED), 5);
         due("none", x.of(1, 0), 0);
     }
@@ -273,26 +247,26 @@ public final class PictureMovesPromises {
     private static void promise8() {
         PictureMoves x = new PictureMoves();
         due("a DOT alone", x.line(0, 3, 2, 3, 2, 255), 1);
-        looks("a DOT alone", x, 0, "....", "....", "...#");
+        Pictures.looks("a DOT alone", x, 0, "....", "....", "...#");
         x = new PictureMoves();
         due("right and down", x.line(0, 0, 0, 4, 1, 255), 5);
-        looks("right and down", x, 0, "##...", "..###");
+        Pictures.looks("right and down", x, 0, "##...", "..###");
         x = new PictureMoves();
         due("left and up", x.line(0, 4, 1, 0, 0, 255), 5);
-        looks("left and up", x, 0, "##...", "..###");
+        Pictures.looks("left and up", x, 0, "##...", "..###");
         x = new PictureMoves();
         due("right and up", x.line(0, 0, 1, 4, 0, 255), 5);
-        looks("right and up", x, 0, "...##", "###..");
+        Pictures.looks("right and up", x, 0, "...##", "###..");
         x = new PictureMoves();
         due("down and left", x.line(0, 1, 0, 0, 4, 255), 5);
-        looks("down and left", x, 0, ".#", ".#", ".#", "#.", "#.");
+        Pictures.looks("down and left", x, 0, ".#", ".#", ".#", "#.", "#.");
         x = new PictureMoves();
         due("aslant", x.line(0, 0, 3, 3, 0, 255), 4);
-        looks("aslant", x, 0, "...#", "..#.", ".#..", "#...");
+        Pictures.looks("aslant", x, 0, "...#", "..#.", ".#..", "#...");
         x = new PictureMoves();
         due("two DOTS", x.line(0, 1, 0, 1, 1, 255), 2);
         due("two DOTS aslant", x.line(0, 4, 1, 3, 0, 255), 2);
-        looks("two DOTS each", x, 0, ".#.#.", ".#..#");
+        Pictures.looks("two DOTS each", x, 0, ".#.#.", ".#..#");
         due("a level one, far down", x.line(0, 20, 20, 22, 20, 255), 3);
         due("an upright one, far right", x.line(0, 30, 20, 30, 22, 255), 3);
         due("row(0, 20)", x.row(0, 20), 0x00000E02);
@@ -331,13 +305,13 @@ public final class PictureMovesPromises {
     }
 
     private static void promise9() {
-        PictureMoves x = shown(0, "###..", "#.#.#", "###.#", "...#.");
+        PictureMoves x = Pictures.shown(0, "###..", "#.#.#", "###.#", "...#.");
         due("a hole", x.flood(0, 1, 1), 1);
-        looks("a hole", x, 0, "###..", "###.#", "###.#", "...#.");
+        Pictures.looks("a hole", x, 0, "###..", "###.#", "###.#", "...#.");
         due("a block", x.flood(0, 0, 0), 9);
-        looks("a block", x, 0, ".....", "....#", "....#", "...#.");
+        Pictures.looks("a block", x, 0, ".....", "....#", "....#", "...#.");
         due("not over corners", x.flood(0, 4, 1), 2);
-        looks("not over corners", x, 0, ".....", ".....", ".....", "...#.");
+        Pictures.looks("not over corners", x, 0, ".....", ".....", ".....", "...#.");
         due("all around", x.flood(0, 31, 23), 767);
         due("all of it", x.flood(0, 3, 3), 768);
         due("none is left", x.of(0, 0), 0);
@@ -346,7 +320,7 @@ public final class PictureMovesPromises {
         x.opening(2, 1, 2, 2);
         x.opening(5, 0, 3, 3);
         due("over two OPENINGS that touch", x.flood(1, 0, 0), 8);
-        looks("over two OPENINGS", x, 1, "##......", "####....", "..##....");
+        Pictures.looks("over two OPENINGS", x, 1, "##......", "####....", "..##....");
         due("not OPEN", x.flood(1, 4, 0), NO);
         due("beyond", x.flood(1, 32, 0), NO);
         due("beyond", x.flood(1, -1, 0), NO);
@@ -388,9 +362,9 @@ public final class PictureMovesPromises {
     private static void promise10() {
         PictureMoves x = new PictureMoves();
         due("a rectangle", x.rectangle(0, 1, 1, 2, 1, SOURCE), 2);
-        looks("a rectangle", x, 0, "....", ".##.", "....");
+        Pictures.looks("a rectangle", x, 0, "....", ".##.", "....");
         due("turned", x.rectangle(0, 0, 0, 4, 2, TURNED), 8);
-        looks("turned", x, 0, "####", "#..#", "....");
+        Pictures.looks("turned", x, 0, "####", "#..#", "....");
         due("all", x.rectangle(0, -20, -20, 64, 64, 255), 762);
         due("one at the edge", x.rectangle(0, -63, -63, 64, 64, 0), 1);
         due("none", x.rectangle(0, -64, 0, 64, 64, 0), 0);
@@ -398,10 +372,10 @@ public final class PictureMovesPromises {
         due("none", x.rectangle(0, 32, 23, 64, 64, 0), 0);
         x.opening(3, 3, 2, 2);
         due("only OPEN ones", x.rectangle(1, 0, 0, 32, 24, 255), 4);
-        looks("only OPEN ones", x, 1, "", "", "", "...##", "...##");
+        Pictures.looks("only OPEN ones", x, 1, "", "", "", "...##", "...##");
         x.pattern(3, 0x10);
         due("by THE PATTERN", x.rectangle(1, 0, 0, 32, 24, PATTERN), 1);
-        looks("by THE PATTERN", x, 1, "", "", "", "...#.", "...##");
+        Pictures.looks("by THE PATTERN", x, 1, "", "", "", "...#.", "...##");
         due("told(5)", x.told(5), 6);
         int[][] wrong = {{3, 0, 0, 1, 1, 0}, {-1, 0, 0, 1, 1, 0}, {0, 64, 0, 1, 1, 0}, {0, -65, 0, 1, 1, 0},
             {0, 0, 64, 1, 1, 0}, {0, 0, -65, 1, 1, 0}, {0, 0, 0, 0, 1, 0}, {0, 0, 0, 65, 1, 0}, {0, 0, 0, 1, 0, 0},
@@ -416,13 +390,13 @@ public final class PictureMovesPromises {
     private static void promise11() {
         PictureMoves x = new PictureMoves();
         due("LETTER 5", x.letter(0, 5, 0, 0, SOURCE), 7);
-        looks("LETTER 5", x, 0, "#.#.", "##.#", "....", "..##");
+        Pictures.looks("LETTER 5", x, 0, "#.#.", "##.#", "....", "..##");
         x = new PictureMoves();
         due("LETTER 0", x.letter(0, 0, 1, 1, SOURCE), 6);
-        looks("LETTER 0", x, 0, "", ".....", "...##", "..##.", ".#..#");
+        Pictures.looks("LETTER 0", x, 0, "", ".....", "...##", "..##.", ".#..#");
         x = new PictureMoves();
         due("LETTER 15", x.letter(0, 15, 0, 0, SOURCE), 6);
-        looks("LETTER 15", x, 0, "....", "..##", ".##.", "#..#");
+        Pictures.looks("LETTER 15", x, 0, "....", "..##", ".##.", "#..#");
         due("its 0s, too, come", x.letter(0, 0, 0, 0, 15), 16);
         x = new PictureMoves();
         due("all 4 by 4", x.letter(1, 7, 28, 20, 255), 16);
@@ -442,7 +416,7 @@ public final class PictureMovesPromises {
     }
 
     private static void promise12() {
-        PictureMoves x = shown(0, "##..");
+        PictureMoves x = Pictures.shown(0, "##..");
         x.dot(1, 1, 0, 1);
         x.dot(1, 2, 0, 1);
         due("0 at all", x.joins(0, 1, 0), 2);
@@ -450,11 +424,11 @@ public final class PictureMovesPromises {
         x.back();
         x.back();
         due("both", x.joins(0, 1, 0xA0), 1);
-        looks("both", x, 1, ".#..");
+        Pictures.looks("both", x, 1, ".#..");
         x.back();
         due("either", x.joins(0, 1, 0xFA), 1);
-        looks("either", x, 1, "###.");
-        looks("the source", x, 0, "##..");
+        Pictures.looks("either", x, 1, "###.");
+        Pictures.looks("the source", x, 0, "##..");
         due("with itself", x.joins(1, 1, TURNED), 768);
         due("of(1, 0)", x.of(1, 0), 765);
         x.opening(0, 0, 2, 1);
@@ -462,7 +436,7 @@ public final class PictureMovesPromises {
         due("only OPEN ones", x.joins(0, 2, SOURCE), 2);
         x.pattern(0, 0x40);
         due("by THE PATTERN", x.joins(0, 2, 0x30), 1);
-        looks("by THE PATTERN", x, 2, "#...");
+        Pictures.looks("by THE PATTERN", x, 2, "#...");
         due("told(5)", x.told(5), 6);
         refused("joins(3, 0, 0)", x, x.joins(3, 0, 0), BAD, 0);
         refused("joins(-1, 0, 0)", x, x.joins(-1, 0, 0), BAD, 1);
@@ -473,7 +447,7 @@ public final class PictureMovesPromises {
     }
 
     private static void promise13() {
-        PictureMoves x = shown(0, "##.#");
+        PictureMoves x = Pictures.shown(0, "##.#");
         x.opening(9, 9, 1, 1);
         due("mirrored", x.changes(0, 0), 6);
         due("row(0, 0)", x.row(0, 0), 0xB);
@@ -486,15 +460,15 @@ public final class PictureMovesPromises {
         due("row(0, 0)", x.row(0, 0), LOW);
         due("mirrored from the left edge", x.changes(0, 0), 2);
         due("row(0, 0)", x.row(0, 0), 1);
-        x = shown(1, "#...", "....", "....", "...#");
+        x = Pictures.shown(1, "#...", "....", "....", "...#");
         x.opening(9, 9, 1, 1);
         due("grown", x.changes(1, 2), 6);
-        looks("grown", x, 1, "##...", "#....", "...#.", "..###", "...#.");
+        Pictures.looks("grown", x, 1, "##...", "#....", "...#.", "..###", "...#.");
         due("thinned", x.changes(1, 3), 7);
-        looks("thinned", x, 1, ".....", ".....", ".....", "...#.");
-        x = shown(2, "####", "####", "####");
+        Pictures.looks("thinned", x, 1, ".....", ".....", ".....", "...#.");
+        x = Pictures.shown(2, "####", "####", "####");
         due("its edge", x.changes(2, 4), 2);
-        looks("its edge", x, 2, "####", "#..#", "####");
+        Pictures.looks("its edge", x, 2, "####", "#..#", "####");
         x = new PictureMoves();
         x.dot(0, 31, 23, 1);
         x.dot(0, 0, 0, 1);
@@ -513,7 +487,7 @@ public final class PictureMovesPromises {
     }
 
     private static void promise14() {
-        PictureMoves x = shown(0, "#.");
+        PictureMoves x = Pictures.shown(0, "#.");
         x.opening(9, 9, 1, 1);
         due("rolls(0, 0, 0)", x.rolls(0, 0, 0), 0);
         due("rolls(0, 1, 2)", x.rolls(0, 1, 2), 2);
@@ -553,7 +527,7 @@ public final class PictureMovesPromises {
     }
 
     private static void promise16() {
-        PictureMoves x = shown(2, "", "#..#");
+        PictureMoves x = Pictures.shown(2, "", "#..#");
         due("row(2, 1)", x.row(2, 1), 0x90000000);
         x.dot(2, 31, 23, 1);
         due("row(2, 23)", x.row(2, 23), 1);
@@ -567,7 +541,7 @@ public final class PictureMovesPromises {
     }
 
     private static void promise17() {
-        PictureMoves x = shown(1, "", "..#.#", ".#.##", "..#..");
+        PictureMoves x = Pictures.shown(1, "", "..#.#", ".#.##", "..#..");
         int[] want = {6, 4, 1, 4, 1, 3, 768};
         for (int what = 0; what < want.length; what++) {
             due("of(1, " + what + ")", x.of(1, what), want[what]);
@@ -615,7 +589,7 @@ public final class PictureMovesPromises {
     }
 
     private static void promise18() {
-        PictureMoves x = shown(0, "##.#", "..##");
+        PictureMoves x = Pictures.shown(0, "##.#", "..##");
         due("count(0, 1, 0, 2, 2)", x.count(0, 1, 0, 2, 2), 2);
         due("count(0, 1, 0, 2, 1)", x.count(0, 1, 0, 2, 1), 1);
         due("count(0, 2, 1, 1, 1)", x.count(0, 2, 1, 1, 1), 1);
@@ -636,7 +610,7 @@ public final class PictureMovesPromises {
     }
 
     private static void promise19() {
-        PictureMoves x = shown(0, "##.#");
+        PictureMoves x = Pictures.shown(0, "##.#");
         x.dot(1, 1, 0, 1);
         x.dot(1, 31, 23, 1);
         x.opening(9, 9, 1, 1);
@@ -651,7 +625,7 @@ public final class PictureMovesPromises {
     }
 
     private static void promise20() {
-        PictureMoves x = shown(0, "##.##", "#..#.");
+        PictureMoves x = Pictures.shown(0, "##.##", "#..#.");
         due("a block that stands twice", x.finds(0, 0, 0, 2, 2, 0), 2);
         due("once with its 0s", x.finds(0, 0, 0, 3, 2, 0), 2);
         due("once", x.finds(0, 2, 0, 3, 2, 0), 1);
@@ -808,7 +782,7 @@ public final class PictureMovesPromises {
     }
 
     private static void promise27() {
-        PictureMoves x = shown(0, "#");
+        PictureMoves x = Pictures.shown(0, "#");
         x.dot(2, 31, 23, 1);
         x.pattern(1, 5);
         x.opening(-1, 2, 3, 4);

@@ -1,20 +1,7 @@
 /** THE TEXT (promises 22 to 24): each row a text, typed on a new object, and what does() answers. */
 public final class PictureMovesTexts {
-    private static PictureMoves typed(String text) {
-        PictureMoves x = new PictureMoves();
-        typeOn(x, text);
-        return x;
-    }
-
-    private static void typeOn(PictureMoves x, String text) {
-        x.clear();
-        for (int k = 0; k < text.length(); k++) {
-            Due.due("type of byte " + k + " of \"" + text + "\"", x.type(text.charAt(k)), k + 1);
-        }
-    }
-
     private static void does(String text, int want) {
-        PictureMoves x = typed(text);
+        PictureMoves x = Pictures.typed(text);
         Due.due("does() of \"" + text + "\"", x.does(), want);
         Due.due("told(5) after \"" + text + "\"", x.told(5), want < 0 ? 0 : 1);
         Due.due("told(3) after \"" + text + "\"", x.told(3), text.length());
@@ -167,21 +154,21 @@ public final class PictureMovesTexts {
         x.opening(0, 0, 1, 1);
         x.opening(2, 0, 1, 1);
         x.opening(4, 0, 1, 1);
-        typeOn(x, "o6 0 1 1;o8 0 1 1;");
+        Pictures.types(x, "o6 0 1 1;o8 0 1 1;");
         Due.due("does() with a 5th OPENING", x.does(), -19);
         Due.due("told(4) after it", x.told(4), 3);
         Due.due("told(2) after it", x.told(2), 0);
-        typeOn(x, "o6 0 1 1;");
+        Pictures.types(x, "o6 0 1 1;");
         Due.due("does() with a 4th OPENING", x.does(), 0);
         Due.due("told(4) after it", x.told(4), 4);
         Due.due("open(6, 0)", x.open(6, 0), 1);
-        typeOn(x, "k;o6 0 1 1;");
+        Pictures.types(x, "k;o6 0 1 1;");
         Due.due("does() with k ahead", x.does(), 0);
         Due.due("told(4) after it", x.told(4), 1);
     }
 
     private static void oneStateForAllOrders() {
-        PictureMoves x = typed("r0 0 0 9 9 255;r1 0 0 9 9 255;o0 0 1 1;r2 0 0 9 9 255;");
+        PictureMoves x = Pictures.typed("r0 0 0 9 9 255;r1 0 0 9 9 255;o0 0 1 1;r2 0 0 9 9 255;");
         Due.due("does()", x.does(), 81 + 81 + 1);
         Due.due("told(5)", x.told(5), 1);
         Due.due("told(4)", x.told(4), 1);
