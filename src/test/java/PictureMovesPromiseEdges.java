@@ -52,9 +52,15 @@ public final class PictureMovesPromiseEdges {
         }
     }
 
-    /** Promise 4, draw: the least and the greatest SEED; all DOTS, whether OPEN or not; "by 2147483648 what is left over". */
+    /**
+     * Promise 4, draw: the least and the greatest SEED; all DOTS, whether OPEN or not; what is left over. 1328 draws 16 DOTS of 1
+     * at the left of row 8, 109 at the right of row 16.
+     */
     private static void drawnFromEachEnd() {
-        for (int seed : new int[] {0, 1, 2, 65535, 65536, 500000, 999998, 999999}) {
+        due("16 DOTS of 1 at the left", drawn(1328).count(0, 0, 8, 16, 1), 16);
+        due("16 DOTS of 1 at the right", drawn(109).count(0, 16, 16, 16, 1), 16);
+        due("16 DOTS of 0 at the left", drawn(0).count(0, 0, 0, 16, 1), 0);
+        for (int seed : new int[] {0, 1, 2, 109, 1328, 65535, 65536, 500000, 999998, 999999}) {
             for (int t = 0; t < 3; t++) {
                 PictureMoves x = allClosed();
                 x.rectangle(t, 0, 0, 32, 24, 255);
@@ -74,6 +80,12 @@ public final class PictureMovesPromiseEdges {
                 due("told(5)", x.told(5), 3);
             }
         }
+    }
+
+    private static PictureMoves drawn(int seed) {
+        PictureMoves x = new PictureMoves();
+        x.draw(0, seed);
+        return x;
     }
 
     private static BigInteger next(BigInteger number) {
@@ -526,6 +538,9 @@ public final class PictureMovesPromiseEdges {
         }
         x.closes();
         due("digest() with none again", x.digest(), digest(x, openings, 0, 1, 254));
+        x.opening(-64, 63, 1, 64);
+        due("digest() with one again", x.digest(), digest(x, openings, 1, 1, 254));
+        x.closes();
         x.draw(0, 999999);
         x.changes(2, 2);
         x.rectangle(2, 0, 0, 1, 24, 255);

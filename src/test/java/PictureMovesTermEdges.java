@@ -153,6 +153,34 @@ public final class PictureMovesTermEdges {
         due("OPEN DOTS", x.of(0, 6), 4);
     }
 
+    /** OPENINGS that were closed, or taken back, open nothing any more where others come. */
+    private static void openingsThatWere() {
+        for (int there = 0; there <= 3; there++) {
+            PictureMoves x = new PictureMoves();
+            for (int k = 0; k < 4; k++) {
+                x.opening(8 * k, 0, 8, 24);
+            }
+            x.closes();
+            due("all are OPEN without any", x.of(0, 6), 768);
+            for (int k = 0; k <= there; k++) {
+                x.opening(k, 23, 1, 1);
+                due("OPEN DOTS of new OPENINGS", x.of(0, 6), k + 1);
+                due("open(31, 0)", x.open(31, 0), 0);
+                due("rectangle", x.rectangle(1, 0, 0, 32, 24, TURNED), k + 1);
+            }
+        }
+        PictureMoves x = new PictureMoves();
+        for (int k = 0; k < 4; k++) {
+            x.opening(8 * k, 0, 8, 24);
+        }
+        for (int k = 3; k > 0; k--) {
+            due("back()", x.back(), k);
+            due("OPEN DOTS", x.of(0, 6), 192 * k);
+        }
+        Pictures.types(x, "k;o3 3 1 1;r2 0 0 32 24 255;");
+        due("does(), k among its ORDERS", x.does(), 1);
+    }
+
     /** "a DOT is OPEN, if there are none or it is in one of them": the first and the last DOT on each side. */
     private static void sidesOfAnOpening() {
         PictureMoves x = new PictureMoves();
@@ -401,6 +429,23 @@ public final class PictureMovesTermEdges {
         due("others stay", x.of(0, 0) + x.of(1, 0), 0);
     }
 
+    /** Nothing of a FLOOD, or of what of() sought, is left for the next one. */
+    private static void floodsOneAfterAnother() {
+        PictureMoves x = Pictures.shown(0, "#####", "", "##", "##", "", "....#", "....#");
+        due("PARTS", x.of(0, 1), 3);
+        due("the first one", x.flood(0, 0, 0), 5);
+        due("the first one back in its place", x.rectangle(0, 0, 1, 5, 1, 255), 5);
+        due("the last one", x.flood(0, 4, 6), 2);
+        Pictures.looks("the others stay", x, 0, ".....", "#####", "##...", "##...", ".....", ".....", ".....");
+        due("PARTS", x.of(0, 1), 1);
+        due("PARTS of another one", x.of(1, 1), 0);
+        x.dot(1, 9, 9, 1);
+        x.dot(1, 0, 2, 1);
+        due("one of them", x.flood(1, 9, 9), 1);
+        due("the other one", x.at(1, 0, 2), 1);
+        due("PARTS of it", x.of(1, 1), 1);
+    }
+
     /** FLOOD: "all OPEN DOTS like it ... by such": DOTS that are not OPEN part what they lie between. */
     private static void floodsWithinOpenings() {
         PictureMoves x = new PictureMoves();
@@ -538,6 +583,7 @@ public final class PictureMovesTermEdges {
         eachJoinInEachCall();
         eachJoinOfALetter();
         fourOpeningsAtMost();
+        openingsThatWere();
         sidesOfAnOpening();
         openingsBeyond();
         closedDotsStay();
@@ -549,6 +595,7 @@ public final class PictureMovesTermEdges {
         halvesAreRoundedDown();
         linesFromBeyond();
         floodsEnd();
+        floodsOneAfterAnother();
         floodsWithinOpenings();
         allLetters();
         lettersOverTheSides();
