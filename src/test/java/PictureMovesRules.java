@@ -5,8 +5,12 @@ import java.lang.reflect.Method;
 import java.lang.reflect.Modifier;
 import java.nio.file.Files;
 import java.nio.file.Path;
+import java.util.ArrayList;
 import java.util.Arrays;
+import java.util.List;
+import java.util.Map;
 import java.util.Set;
+import java.util.TreeMap;
 import java.util.TreeSet;
 import java.util.regex.Matcher;
 import java.util.regex.Pattern;
@@ -107,15 +111,68 @@ public final class PictureMovesRules {
             }
         }
         methodsAreShort(bare);
+        libraryIsListed(bare);
     }
 
-    private static void methodsAreShort(String bare) {
-        int lines = 0;
+    /** The methods and constructors of the source by name, each with its lines; what bears the same name is joined. */
+    private static Map<String, List<String>> bodies(String bare) {
+        Pattern begin = Pattern.compile("( {4}| {8})(?:[\\w\\[\\]]+ )*(\\w+)\\([^;]*\\) \\{");
+        Set<String> words = Set.of("if", "for", "while", "switch");
+        Map<String, List<String>> found = new TreeMap<>();
+        List<String> body = null;
+        String end = "";
         for (String line : bare.split("\n")) {
-            boolean begins = line.matches("( {4}| {8})[\\w].*\\) \\{");
-            boolean ends = line.matches("( {4}| {8})\\}");
-            lines = begins ? 0 : lines + 1;
-            Due.holds("a method has sixty lines at most: " + line, !ends || lines <= 60 || line.equals("    }"));
+            Matcher m = begin.matcher(line);
+            if (body == null && m.matches() && !words.contains(m.group(2))) {
+                body = found.computeIfAbsent(m.group(2), name -> new ArrayList<>());
+                end = m.group(1) + "}";
+            } else if (body != null && line.equals(end)) {
+                body = null;
+            } else if (body != null) {
+                body.add(line);
+            }
+        }
+        Due.holds("the last method ends", body == null);
+        return found;
+    }
+
+    /** Rules 8 and 11: no recursion, calls eight deep at most, methods of some sixty lines. */
+    private static void methodsAreShort(String bare) {
+        Map<String, List<String>> bodies = bodies(bare);
+        for (Method m : PictureMoves.class.getDeclaredMethods()) {
+            Due.holds(m.getName() + " is found in the source", bodies.containsKey(m.getName()));
+        }
+        for (Map.Entry<String, List<String>> method : bodies.entrySet()) {
+            Due.holds(method.getKey() + " has sixty lines at most", method.getValue().size() <= 60);
+            int deep = deep(method.getKey(), bodies, 1);
+            Due.holds(method.getKey() + " goes eight calls deep at most, without recursion: " + deep, deep <= 8);
+        }
+    }
+
+    /** How deep calls go from a method on; a recursion shows as deeper than any that is allowed. */
+    private static int deep(String name, Map<String, List<String>> bodies, int level) {
+        int deepest = level;
+        if (level <= 8) {
+            Matcher call = Pattern.compile("(\\w+)\\(").matcher(String.join("\n", bodies.get(name)));
+            while (call.find()) {
+                if (bodies.containsKey(call.group(1))) {
+                    deepest = Math.max(deepest, deep(call.group(1), bodies, level + 1));
+                }
+            }
+        }
+        return deepest;
+    }
+
+    /** Rule 4, more narrowly: the library's calls that the program needs; one more is added here by whoever needs it. */
+    private static void libraryIsListed(String bare) {
+        Set<String> listed = Set.of("Math.max", "Math.min", "Math.abs", "Math.floorDiv", "Math.floorMod", "Integer.bitCount",
+            "Arrays.fill", "System.arraycopy");
+        Set<String> onTexts = Set.of("length", "charAt", "isEmpty");
+        Map<String, List<String>> bodies = bodies(bare);
+        Matcher call = Pattern.compile("([\\w)\\]]+)\\.(\\w+)\\(").matcher(bare);
+        while (call.find()) {
+            String shown = call.group(1) + "." + call.group(2);
+            Due.holds("own or listed: " + shown, listed.contains(shown) || onTexts.contains(call.group(2)) || bodies.containsKey(call.group(2)));
         }
     }
 
@@ -130,10 +187,11 @@ public final class PictureMovesRules {
         Due.due("objects made beside fields and constructors", made - inFields, 0);
     }
 
+    /** Another source may be given by its path. */
     public static void main(String[] args) throws IOException {
         Set<String> publicNames = face();
         classes(PictureMoves.class, publicNames);
-        String source = Files.readString(Path.of("src/main/java/PictureMoves.java"));
+        String source = Files.readString(Path.of(args.length > 0 ? args[0] : "src/main/java/PictureMoves.java"));
         source(source);
         callsMakeNothing(bare(source));
         Due.end();
